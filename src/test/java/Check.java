@@ -20,6 +20,14 @@ final class Check {
         }
     }
 
+    void same(String what, String got, String due) {
+        checks++;
+        if (!got.equals(due)) {
+            wrong++;
+            System.out.println(what + " answered " + got + ", due is " + due);
+        }
+    }
+
     void same(String what, int[] got, int[] due) {
         checks++;
         if (!Arrays.equals(got, due)) {
