@@ -52,9 +52,10 @@ public final class EventLog {
     public EventLog() {
         events = new Events();
         spare = new Events();
-        log = new Bytes();
-        packer = new Packer(log);
-        reader = new Reader(log);
+        Bytes bytes = new Bytes();
+        log = bytes;
+        packer = new Packer(bytes);
+        reader = new Reader(bytes);
     }
 
     public int add(int kind, long difference, long a, int b)

@@ -19,6 +19,7 @@ public final class ReadTest {
         bytesBehind();
         nothingChangesOnFault();
         eventsAreReplaced();
+        earlierReadsAreForgotten();
         check.end();
     }
 
@@ -261,5 +262,17 @@ public final class ReadTest {
         Check.setLog(log, 0);
         check.same("read() of none", log.read(), 0);
         check.same("count(0) of none", log.count(0), 0);
+    }
+
+    /** What an entry means is in its own log, never in one that was read before. */
+    private static void earlierReadsAreForgotten() {
+        EventLog log = Check.withLog(2, 0x0B, 5, 0x19, 0x41);
+        check.same("read() of a CLOCK and a TYPED", log.read(), 2);
+        Check.setLog(log, 3, 0x18, 0x28, 0x1B);
+        check.same("read() of CLOCK with X 1", log.read(), Check.fault(4, 3));
+        Check.setLog(log, 3, 0x18, 0x28, 0x09, 1);
+        check.same("read() of TYPED with k 1", log.read(), Check.fault(4, 3));
+        Check.setLog(log, 2, 0x19, 0x42, 0x09, 2);
+        check.same("read() of TYPED with k 2", log.read(), Check.fault(4, 3));
     }
 }
