@@ -1,23 +1,67 @@
 /** Promise 9: byteAt. */
 public final class ByteAtTest {
+    private static final int LONGEST_PACKED = 2 + 300 * 15;
+    private static final int[] FAR = {4999, 5000, Integer.MIN_VALUE, Integer.MAX_VALUE};
+
     private static final Check check = new Check();
 
     public static void main(String[] args) {
-        EventLog log = Check.withLog(0, 127, 128, 255);
-        check.same("byteAt(0)", log.byteAt(0), 0);
-        check.same("byteAt(1)", log.byteAt(1), 127);
-        check.same("byteAt(2)", log.byteAt(2), 128);
-        check.same("byteAt(3)", log.byteAt(3), 255);
-        refused(log, 4);
-        refused(log, -1);
-        refused(log, 5000);
-        refused(log, Integer.MIN_VALUE);
-        refused(log, Integer.MAX_VALUE);
-        check.same("count(1)", log.count(1), 4);
+        eachByte();
+        places();
+        placesOfNone();
+        placesOfTheLongestPacked();
+        nothingChanges();
         check.end();
     }
 
-    private static void refused(EventLog log, int i) {
-        check.isThrown("byteAt(" + i + ")", IndexOutOfBoundsException.class, () -> log.byteAt(i));
+    private static void refused(Run run, int... places) {
+        for (int i : places) {
+            check.isRefused("byteAt(" + i + ")", IndexOutOfBoundsException.class, run,
+                log -> log.byteAt(i));
+        }
+    }
+
+    private static void due(Run run, int i, int b) {
+        check.same("byteAt(" + i + ")", run.answer(log -> log.byteAt(i)), b);
+    }
+
+    /** A byte is 0 .. 255, never less than 0. */
+    private static void eachByte() {
+        for (int b = 0; b <= 255; b++) {
+            due(Run.written(b), 0, b);
+        }
+    }
+
+    /** "IndexOutOfBoundsException when there is none." */
+    private static void places() {
+        Run run = Run.written(0, 127, 128, 255);
+        due(run, 0, 0);
+        due(run, 1, 127);
+        due(run, 2, 128);
+        due(run, 3, 255);
+        refused(run, -1, 4, 5);
+        refused(run, FAR);
+    }
+
+    private static void placesOfNone() {
+        refused(new Run(), -1, 0, 1);
+        refused(new Run(), FAR);
+        refused(Run.written(1, 2, 3).cut(1), 1, 2);
+        refused(Run.written(1, 2, 3).cut(0), 0);
+        // A shorter log takes the place of a longer one.
+        refused(Run.written(1, 2, 3).pack(), 1, 2);
+    }
+
+    private static void placesOfTheLongestPacked() {
+        Run run = Run.full().pack();
+        due(run, 0, 0xAC);
+        due(run, 1, 2);
+        due(run, LONGEST_PACKED - 1, 299 % 256);
+        refused(run, -1, LONGEST_PACKED);
+        refused(run, FAR);
+    }
+
+    private static void nothingChanges() {
+        check.leavesAll("byteAt(0)", Run.some(), log -> log.byteAt(0));
     }
 }

@@ -1,4 +1,5 @@
 import java.util.Arrays;
+import java.util.function.Consumer;
 
 /** What the tests share: the counting of wrong answers, and logs written and read as rows. */
 final class Check {
@@ -8,6 +9,7 @@ final class Check {
     static final int CLOCK = 3;
     static final int RANDOM = 4;
     static final long FARTHEST = 1L << 40;
+    static final int MOST_EVENTS = 300;
 
     private int checks;
     private int wrong;
@@ -26,6 +28,10 @@ final class Check {
             wrong++;
             System.out.println(what + " answered " + got + ", due is " + due);
         }
+    }
+
+    void same(String what, long[] got, long[] due) {
+        same(what, Arrays.toString(got), Arrays.toString(due));
     }
 
     void same(String what, int[] got, int[] due) {
@@ -58,6 +64,18 @@ final class Check {
             wrong++;
             System.out.println(what + " threw " + got + ", due is " + due);
         }
+    }
+
+    /** The call throws this behind the run, and all is as it was. */
+    void isRefused(String what, Class<? extends RuntimeException> due, Run run,
+            Consumer<EventLog> call) {
+        EventLog log = run.made();
+        isThrown(what, due, () -> call.accept(log));
+        leavesAll(what, run, call);
+    }
+
+    void leavesAll(String what, Run run, Consumer<EventLog> call) {
+        same("what there is behind " + what, run.tried(call).state(), run.state());
     }
 
     void end() {

@@ -45,7 +45,8 @@ public final class FaceTest {
 
     private static void face() {
         int modifiers = EventLog.class.getModifiers();
-        check.isTrue("public and final", Modifier.isPublic(modifiers) && Modifier.isFinal(modifiers));
+        check.isTrue("public and final",
+            Modifier.isPublic(modifiers) && Modifier.isFinal(modifiers));
         check.isTrue("no package", EventLog.class.getPackageName().isEmpty());
         Constructor<?>[] constructors = EventLog.class.getDeclaredConstructors();
         check.isTrue("one public constructor without parameters", constructors.length == 1

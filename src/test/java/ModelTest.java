@@ -183,7 +183,8 @@ public final class ModelTest {
     private void readSpoiled() {
         both("pack()", log::pack, model::pack);
         for (int n = random.nextInt(3); n > 0; n--) {
-            poke(random.nextInt(model.count(1) + 1), random.nextInt(random.nextBoolean() ? 256 : 16));
+            int most = random.nextBoolean() ? 256 : 16;
+            poke(random.nextInt(model.count(1) + 1), random.nextInt(most));
         }
         read();
     }
@@ -192,8 +193,8 @@ public final class ModelTest {
         cut(0);
         int length = random.nextInt(14);
         for (int i = 0; i < length; i++) {
-            boolean likely = random.nextInt(3) > 0;
-            int b = likely ? LIKELY_BYTES[random.nextInt(LIKELY_BYTES.length)] : random.nextInt(256);
+            int b = random.nextInt(3) > 0 ? LIKELY_BYTES[random.nextInt(LIKELY_BYTES.length)]
+                : random.nextInt(256);
             poke(i, i == 0 ? random.nextInt(6) : b);
         }
         read();

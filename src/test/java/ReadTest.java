@@ -1,36 +1,24 @@
-import java.util.Arrays;
-
-/** Promise 6: read, and the seven faults. */
+/** Promise 6: read, of logs that have no fault; FaultTest has the others. */
 public final class ReadTest {
     private static final Check check = new Check();
 
     public static void main(String[] args) {
         eachKind();
         everyForm();
+        firstDifference();
+        edgesOfWhatIsBrought();
+        numbersOfEvents();
+        runsUpToTheLastEvent();
+        runsAreEvents();
         readsBackWhatIsPacked();
-        badHeads();
-        goodHeads();
-        ends();
-        badVarints();
-        noneBefore();
-        orderOfNoneBefore();
-        badNumbers();
-        tooMany();
-        bytesBehind();
-        nothingChangesOnFault();
         eventsAreReplaced();
+        logStays();
         earlierReadsAreForgotten();
         check.end();
     }
 
     private static void due(int answer, int... bytes) {
-        EventLog log = Check.withLog(bytes);
-        check.same("read() of " + Arrays.toString(bytes), log.read(), answer);
-        check.same("the log behind read()", Check.bytes(log), bytes);
-    }
-
-    private static void faulty(int which, int place, int... bytes) {
-        due(Check.fault(which, place), bytes);
+        check.same("read()", Run.written(bytes).answer(EventLog::read), answer);
     }
 
     private static void eachKind() {
@@ -79,189 +67,117 @@ public final class ReadTest {
         check.sameEvent(log, 9, Check.CLOCK, 7, 9, 0);
         check.sameEvent(log, 10, Check.CLOCK, 7, 9, 0);
         check.sameEvent(log, 11, Check.SWITCH, 7, 1, 0);
+    }
 
-        EventLog far = Check.withLog(33, 0x21, 1, 0x41, 0x42, 0x19, 0x43, 0x05, 30, 0x09, 32);
-        check.same("read() with k 32", far.read(), 33);
-        check.sameEvent(far, 31, Check.TYPED, 1, 0x43, 1);
-        check.sameEvent(far, 32, Check.TYPED, 1, 0x4142, 2);
-        due(300, 0xAC, 2, 0x18, 0x05, 0xAB, 2);
+    /** SAME is "0 for the first event", and a difference of 0 may be written out too. */
+    private static void firstDifference() {
+        long[] zero = new Run().add(Check.SWITCH, 0, 3, 0).events();
+        check.same("SAME as the first", Run.written(1, 0x38).read().events(), zero);
+        check.same("0 as the first", Run.written(1, 0x30, 0).read().events(), zero);
+        // The events that were there have no part in it.
+        check.same("SAME as the first, over others",
+            new Run().add(Check.SWITCH, 9, 1, 0).write(1, 0x38).read().events(), zero);
+        check.same("SAME as the first, over one read",
+            Run.written(1, 0x30, 9).read().write(1, 0x38).read().events(), zero);
+    }
+
+    private static void edgesOfWhatIsBrought() {
+        for (int x = 0; x <= 15; x++) {
+            check.sameEvent(Run.written(1, 16 * x + 8).read().made(), 0, Check.SWITCH, 0, x, 0);
+            for (int number : new int[] {1, 31}) {
+                check.sameEvent(Run.written(1, 16 * x + 10, number).read().made(), 0,
+                    Check.SIGNAL, 0, x, number);
+            }
+        }
+        for (int x = 1; x <= 8; x++) {
+            int[] zeros = new int[x];
+            int[] highest = new int[x];
+            highest[0] = 255;
+            check.sameEvent(Run.written(Check.joined(Check.row(1, 16 * x + 9), zeros)).read()
+                .made(), 0, Check.TYPED, 0, 0, x);
+            check.sameEvent(Run.written(Check.joined(Check.row(1, 16 * x + 9), highest)).read()
+                .made(), 0, Check.TYPED, 0, 255L << (8 * x - 8), x);
+        }
+        check.sameEvent(Run.written(1, 0x0C, 255, 255, 255, 255).read().made(), 0,
+            Check.RANDOM, 0, 0xFFFFFFFFL, 0);
+        check.sameEvent(Run.written(1, 0x0C, 0, 0, 0, 0).read().made(), 0, Check.RANDOM, 0, 0, 0);
+        check.sameEvent(Run.written(1, 0x0C, 128, 0, 0, 0).read().made(), 0,
+            Check.RANDOM, 0, 0x80000000L, 0);
+    }
+
+    /** "how many events": from none to 300. */
+    private static void numbersOfEvents() {
         due(0, 0);
+        due(1, 1, 0x18);
+        due(127, 127, 0x18, 0x05, 126);
+        due(128, 128, 1, 0x18, 0x05, 127);
+        due(299, 0xAB, 2, 0x18, 0x05, 0xAA, 2);
+        due(300, 0xAC, 2, 0x18, 0x05, 0xAB, 2);
+        Run one = new Run();
+        int[] heads = new int[300];
+        for (int i = 0; i < 300; i++) {
+            heads[i] = i % 2 == 0 ? 0x18 : 0x28;
+            one.add(Check.SWITCH, 0, i % 2 + 1, 0);
+        }
+        Run each = Run.written(Check.joined(Check.row(0xAC, 2), heads));
+        check.same("read() of 300 entries", each.answer(EventLog::read), 300);
+        check.same("the events of 300 entries", each.read().events(), one.events());
+    }
+
+    private static void runsUpToTheLastEvent() {
+        for (int n = 1; n <= 15; n++) {
+            due(n + 1, n + 1, 0x18, 16 * n + 5);
+            check.same("the events of a run of " + n,
+                Run.written(n + 1, 0x10, 4, 16 * n + 5).read().events(),
+                new Run().addTimes(n + 1, Check.SWITCH, 4, 1, 0).events());
+        }
+        due(31, 31, 0x18, 0xF5, 0xF5);
+        due(300, 0xAC, 2, 0x18, 0x05, 0xAA, 2, 0x15);
+    }
+
+    /** What a RUN brings is an event before for each entry behind it. */
+    private static void runsAreEvents() {
+        due(4, 4, 0x19, 0x41, 0x15, 0x09, 2, 0x18);
+        Run typed = Run.written(4, 0x29, 0x41, 0x42, 0x19, 0x43, 0x15, 0x09, 3).read();
+        check.sameEvent(typed.made(), 3, Check.TYPED, 0, 0x4142, 2);
+        Run clock = Run.written(4, 0x03, 2, 9, 0x15, 0x18, 0x1B).read();
+        check.sameEvent(clock.made(), 3, Check.CLOCK, 2, 9, 0);
+        Run same = Run.written(4, 0x10, 7, 0x25, 0x28).read();
+        check.sameEvent(same.made(), 3, Check.SWITCH, 7, 2, 0);
+        Run again = Run.written(4, 0x29, 0x41, 0x42, 0x09, 1, 0x25).read();
+        check.sameEvent(again.made(), 3, Check.TYPED, 0, 0x4142, 2);
     }
 
     private static void readsBackWhatIsPacked() {
-        EventLog log = new EventLog();
+        Run mixed = new Run();
         for (int i = 0; i < 300; i++) {
-            log.add(i / 2 % 5, i / 2 % 3 * 1000L, i % 16, i % 8 + 1);
+            mixed.add(i / 2 % 5, i / 2 % 3 * 1000L, i % 16, i % 8 + 1);
         }
-        EventLog other = Check.withLog(Check.packed(log));
-        check.same("read()", other.read(), 300);
-        for (int k = 0; k < 300; k++) {
-            check.sameEvent(other, k, log.event(k, 0), log.event(k, 1), log.event(k, 2),
-                log.event(k, 3));
-        }
-    }
-
-    private static void badHeads() {
-        for (int head = 0; head < 256; head++) {
-            int kind = head & 7;
-            int x = head >> 4;
-            boolean bad = kind > 5 || kind == 1 && x > 8 || kind == 3 && x > 1
-                || kind == 4 && x > 0 || kind == 5 && (head & 8) != 0;
-            if (bad) {
-                faulty(1, 1, 1, head);
-                faulty(1, 2, 2, 0x18, head, 0, 0, 0, 0, 0);
-            }
+        for (Run run : new Run[] {new Run(), Run.some(), mixed, Run.full()}) {
+            long[] due = run.events();
+            run.pack().drop(0);
+            check.same("read() behind pack()", run.answer(EventLog::read), due.length / 5);
+            check.same("the events behind read()", run.read().events(), due);
         }
     }
 
-    private static void goodHeads() {
-        for (int x = 0; x < 16; x++) {
-            due(1, 1, x << 4 | 8);
-            due(1, 1, x << 4 | 8 | 2, 1);
-        }
-        for (int x = 1; x <= 8; x++) {
-            due(1, Check.joined(Check.row(1, x << 4 | 9), new int[x]));
-        }
-        for (int x = 1; x < 16; x++) {
-            due(x + 1, x + 1, 0x18, x << 4 | 5);
-        }
-    }
-
-    private static void ends() {
-        faulty(2, 0);
-        faulty(2, 1, 128);
-        faulty(2, 1, 1);
-        faulty(2, 2, 2, 0x18);
-        faulty(2, 2, 1, 0x10);
-        faulty(2, 3, 1, 0x10, 200);
-        faulty(2, 8, 1, 0x10, 255, 255, 255, 255, 255, 255);
-        faulty(2, 2, 1, 0x19);
-        faulty(2, 9, 1, 0x89, 1, 2, 3, 4, 5, 6, 7);
-        faulty(2, 2, 1, 0x09);
-        faulty(2, 2, 1, 0x1A);
-        faulty(2, 2, 1, 0x0B);
-        faulty(2, 5, 1, 0x0C, 1, 2, 3);
-        faulty(2, 2, 1, 0x0C);
-        faulty(2, 3, 2, 0x18, 0x05);
-        faulty(2, 4, 2, 0x18, 0x05, 128);
-    }
-
-    private static void badVarints() {
-        int[] farthest = {128, 128, 128, 128, 128, 32};
-        int[] farther = {129, 128, 128, 128, 128, 32};
-        int[] six = {255, 255, 255, 255, 255, 127};
-        int[] longerSix = {128, 128, 128, 128, 128, 0};
-        int[] sevenEnding = {128, 128, 128, 128, 128, 128, 1};
-        int[] sevenEmpty = {128, 128, 128, 128, 128, 160, 0};
-        int[] sevenOpen = {128, 128, 128, 128, 128, 128, 128};
-        int[][] sixes = {farther, six, longerSix};
-        int[][] sevens = {sevenEnding, sevenEmpty, sevenOpen};
-        int[][] fronts = {{}, {1, 0x10}, {1, 0x0B}, {2, 0x19, 0x41, 0x09}, {2, 0x18, 0x05}};
-        for (int[] front : fronts) {
-            for (int[] bad : sixes) {
-                faulty(3, front.length + 5, Check.joined(front, bad));
-            }
-            for (int[] bad : sevens) {
-                faulty(3, front.length + 6, Check.joined(front, bad));
-            }
-            faulty(3, front.length + 1, Check.joined(front, Check.row(129, 0)));
-            faulty(3, front.length + 1, Check.joined(front, Check.row(128, 0)));
-            faulty(3, front.length + 2, Check.joined(front, Check.row(129, 129, 0)));
-        }
-        due(1, Check.joined(Check.row(1, 0x10), farthest));
-        due(1, Check.joined(Check.row(1, 0x0B), farthest));
-    }
-
-    private static void noneBefore() {
-        faulty(4, 1, 1, 0x05);
-        faulty(4, 1, 1, 0x15);
-        faulty(4, 1, 1, 0x09, 1);
-        faulty(4, 1, 1, 0x01, 5, 1);
-        faulty(4, 2, 2, 0x18, 0x09, 1);
-        faulty(4, 3, 2, 0x19, 0x41, 0x09, 2);
-        faulty(4, 4, 4, 0x19, 0x41, 0x15, 0x09, 3);
-        faulty(4, 1, 1, 0x1B);
-        faulty(4, 2, 2, 0x18, 0x1B);
-        faulty(4, 1, Check.joined(Check.row(1, 0x09), Check.row(128, 128, 128, 128, 128, 32)));
-        due(4, 4, 0x19, 0x41, 0x15, 0x09, 2, 0x18);
-        due(2, 2, 0x0B, 0, 0x1B);
-    }
-
-    /** The difference and k come first, n of a RUN does not. */
-    private static void orderOfNoneBefore() {
-        faulty(2, 2, 1, 0x13);
-        faulty(3, 3, 1, 0x13, 128, 0);
-        faulty(4, 1, 1, 0x13, 1);
-        faulty(2, 2, 1, 0x01);
-        faulty(3, 3, 1, 0x01, 128, 0);
-        faulty(2, 3, 1, 0x01, 1);
-        faulty(3, 3, 1, 0x09, 128, 0);
-        faulty(5, 3, 1, 0x01, 1, 0);
-        faulty(4, 1, 1, 0x05, 0);
-        faulty(4, 1, 1, 0x05, 128, 0);
-        faulty(4, 1, 1, 0xF5);
-    }
-
-    private static void badNumbers() {
-        faulty(5, 2, 1, 0x1A, 0);
-        faulty(5, 2, 1, 0x1A, 32);
-        faulty(5, 2, 1, 0x1A, 255);
-        faulty(5, 4, 1, 0x12, 128, 1, 0);
-        faulty(5, 2, 1, 0x09, 0);
-        faulty(5, 4, 2, 0x19, 0x41, 0x09, 0);
-        faulty(5, 3, 2, 0x18, 0x05, 0);
-        due(1, 1, 0x1A, 1);
-        due(1, 1, 0x1A, 31);
-    }
-
-    private static void tooMany() {
-        faulty(6, 0, 0xAD, 2);
-        faulty(6, 0, 0xAD, 2, 0x18);
-        faulty(6, 0, 128, 128, 128, 128, 128, 32);
-        faulty(6, 2, 2, 0x18, 0x25);
-        faulty(6, 2, 2, 0x18, 0x05, 2);
-        faulty(6, 2, 2, 0x18, 0x05, 128, 128, 128, 128, 128, 32);
-        faulty(6, 3, 3, 0x18, 0x15, 0x25, 0x18);
-        faulty(6, 3, 0xAC, 2, 0x18, 0x05, 0xAC, 2);
-        faulty(2, 2, 0xAC, 2);
-    }
-
-    private static void bytesBehind() {
-        faulty(7, 1, 0, 0);
-        faulty(7, 1, 0, 0xFF);
-        faulty(7, 2, 1, 0x18, 0x0E);
-        faulty(7, 2, 1, 0x18, 0x15);
-        faulty(7, 3, 2, 0x18, 0x15, 0x15);
-        faulty(7, 3, 2, 0x18, 0x28, 0x38, 0x48);
-    }
-
-    private static void nothingChangesOnFault() {
-        EventLog log = new EventLog();
-        log.add(Check.SIGNAL, 3, 4, 5);
-        log.add(Check.CLOCK, 3, 4, 0);
-        Check.setLog(log, 3, 0x28, 0x38, 0x0E);
-        check.same("read() with a fault", log.read(), Check.fault(1, 3));
-        check.same("count(0)", log.count(0), 2);
-        check.sameEvent(log, 0, Check.SIGNAL, 3, 4, 5);
-        check.sameEvent(log, 1, Check.CLOCK, 3, 4, 0);
-        check.same("the log", Check.bytes(log), Check.row(3, 0x28, 0x38, 0x0E));
-        check.same("read() again", log.read(), Check.fault(1, 3));
-    }
-
+    /** "which take the place of those that were there". */
     private static void eventsAreReplaced() {
-        EventLog log = new EventLog();
-        log.add(Check.SIGNAL, 3, 4, 5);
-        log.add(Check.CLOCK, 3, 4, 0);
-        Check.setLog(log, 1, 0x28);
-        check.same("read()", log.read(), 1);
-        check.same("count(0)", log.count(0), 1);
-        check.sameEvent(log, 0, Check.SWITCH, 0, 2, 0);
-        check.same("add behind read()", log.add(Check.SWITCH, 1, 3, 0), 2);
-        check.same("the log", Check.bytes(log), Check.row(1, 0x28));
-        check.same("read() again", log.read(), 1);
-        Check.setLog(log, 0);
-        check.same("read() of none", log.read(), 0);
-        check.same("count(0) of none", log.count(0), 0);
+        long[] two = new Run().add(Check.SWITCH, 0, 1, 0).add(Check.SWITCH, 0, 2, 0).events();
+        check.same("over some", Run.some().read().events(), two);
+        check.same("over 300", Run.full().write(2, 0x18, 0x28).read().events(), two);
+        check.same("over none", Run.written(2, 0x18, 0x28).read().events(), two);
+        check.same("twice", Run.some().read().read().events(), two);
+        check.same("none over 300", Run.full().write(0).read().state(), Run.written(0).state());
+        check.same("add behind read()",
+            Run.some().read().answer(log -> log.add(Check.SWITCH, 1, 3, 0)), 3);
+    }
+
+    private static void logStays() {
+        check.same("the log behind read()", Run.some().read().bytes(), Check.row(2, 0x18, 0x28));
+        int[] longForm = {3, 0x10, 0, 0x10, 0, 0x05, 1};
+        check.same("a log that packing would not give", Run.written(longForm).read().bytes(),
+            longForm);
     }
 
     /** What an entry means is in its own log, never in one that was read before. */
