@@ -310,7 +310,10 @@ public final class FaultTest {
             {2, 0x28, 0x38, 0x48}};
         int[] answers = {-3, -26, -27, -36, -29, -30, -31, -7, -32};
         for (int i = 0; i < logs.length; i++) {
-            for (Run run : new Run[] {new Run(), Run.some(), Run.full()}) {
+            // What was read before is no more to be lost than what was added.
+            Run[] runs = {new Run(), Run.some(), Run.full(), Run.some().read(),
+                Run.some().read().read(), Run.full().pack().drop(0).read()};
+            for (Run run : runs) {
                 run.write(logs[i]);
                 check.same("read() of " + Arrays.toString(logs[i]), run.answer(EventLog::read),
                     answers[i]);

@@ -3,8 +3,8 @@ import java.util.List;
 import java.util.NoSuchElementException;
 
 /**
- * A second program by the same document, for ModelTest. It shares nothing with EventLog and is
- * written another way: lists that grow, a fault that is thrown, the whole past searched each time.
+ * A second program by the same document. It shares nothing with EventLog and is written another
+ * way: lists that grow, a fault that is thrown, the whole past searched each time.
  */
 final class Model {
     /** An event; b is 0 where it isn't named. */

@@ -41,14 +41,16 @@ public final class NewObjectTest {
     }
 
     private static void nothingOfAnotherObject() {
-        EventLog used = new EventLog();
         EventLog older = new EventLog();
+        EventLog used = new EventLog();
         used.add(Check.SWITCH, 1, 1, 0);
         used.pack();
-        EventLog newer = new EventLog();
         check.same("count(0) of an older one", older.count(0), 0);
         check.same("count(1) of an older one", older.count(1), 0);
+        EventLog newer = new EventLog();
         check.same("count(0) of a newer one", newer.count(0), 0);
         check.same("count(1) of a newer one", newer.count(1), 0);
+        check.same("count(0) of the used one", used.count(0), 1);
+        check.same("count(1) of the used one", used.count(1), 3);
     }
 }
