@@ -12,6 +12,7 @@ public final class AddTest {
         lengthsOfTyped();
         bytesOfTyped();
         lowestBytesOfTyped();
+        highestByteFirst();
         processesOfSignal();
         numbersOfSignal();
         clocks();
@@ -52,7 +53,7 @@ public final class AddTest {
         }
     }
 
-    /** "Answers how many events there are." */
+    /** "Adds an event: kind, difference, and a and b"; "Answers how many events there are." */
     private static void ordinaryEvents() {
         EventLog log = new EventLog();
         check.same("add 1", log.add(Check.SWITCH, 10, 3, 0), 1);
@@ -134,6 +135,19 @@ public final class AddTest {
         }
         taken(Check.TYPED, 0, -1, 1, 255, 1);
         taken(Check.TYPED, 0, 256, 1, 0, 1);
+    }
+
+    /** "(the highest of these first)": what was typed first stands first in the log. */
+    private static void highestByteFirst() {
+        for (int b = 1; b <= 8; b++) {
+            int[] due = new int[b];
+            for (int i = 0; i < b; i++) {
+                due[i] = 0xF8 - (b - 1 - i);
+            }
+            check.same("the log of " + b + " bytes",
+                new Run().add(Check.TYPED, 0, 0xF1F2F3F4F5F6F7F8L, b).pack().bytes(),
+                Check.joined(Check.row(1, 16 * b + 9), due));
+        }
     }
 
     /** "SIGNAL: a process 0 .. 15". */

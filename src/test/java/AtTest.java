@@ -25,6 +25,7 @@ public final class AtTest {
         check.same("at(" + c + ")", run.answer(log -> log.at(c)), k);
     }
 
+    /** "The k of the event in whose place a sum of differences c falls". */
     private static void ordinary() {
         Run run = with(10, 20, 5);
         long[] sums = {9, 10, 11, 29, 30, 31, 34, 35, 36};

@@ -25,7 +25,7 @@ public final class ByteAtTest {
         check.same("byteAt(" + i + ")", run.answer(log -> log.byteAt(i)), b);
     }
 
-    /** A byte is 0 .. 255, never less than 0. */
+    /** "Byte i of the log.": 0 .. 255, never less than 0. */
     private static void eachByte() {
         for (int b = 0; b <= 255; b++) {
             due(Run.written(b), 0, b);

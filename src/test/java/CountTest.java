@@ -19,6 +19,10 @@ public final class CountTest {
         check.same("the counts of " + what, run.counts(), counts);
     }
 
+    /**
+     * "what = 0 events, 1 bytes of the log, 2 entries that pack() would give, 3 of these RUNs,
+     * 4 SAME ones, 5 TYPED ones with k".
+     */
     private static void oneByOne() {
         Run run = Run.written(1, 2, 3, 4, 5, 6, 7);
         due("a log alone", run, 0, 7, 0, 0, 0, 0);

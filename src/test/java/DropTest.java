@@ -78,6 +78,7 @@ public final class DropTest {
         refused(Run.full(), FAR);
     }
 
+    /** Events go, and nothing else. */
     private static void logStays() {
         int[] packed = five().pack().bytes();
         check.same("the log behind drop(2)", five().pack().drop(2).bytes(), packed);

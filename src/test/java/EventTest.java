@@ -20,7 +20,7 @@ public final class EventTest {
         check.end();
     }
 
-    /** "b 0 where it isn't named". */
+    /** "what = 0 its kind, 1 its difference, 2 a, 3 b as in add [..]; b 0 where it isn't named". */
     private static void parts() {
         EventLog log = new EventLog();
         log.add(Check.SWITCH, 3, 15, 9);

@@ -36,6 +36,7 @@ public final class FaultTest {
         }
     }
 
+    /** "-1 - (the fault + 8 * its place)". */
     private static void faulty(int which, int place, int... bytes) {
         due(-1 - (which + 8 * place), bytes);
     }

@@ -32,6 +32,7 @@ public final class PackTest {
         check.end();
     }
 
+    /** "Packs the events: [..] how many bytes." */
     private static void due(String what, Run run, int... bytes) {
         check.same(what + ": pack()", run.answer(EventLog::pack), bytes.length);
         check.same(what + ": the log", run.pack().bytes(), bytes);
@@ -118,6 +119,7 @@ public final class PackTest {
         due("all 0 twice", new Run().addTimes(2, Check.SWITCH, 0, 0, 0), 2, 0x08, 0x15);
     }
 
+    /** "those that are like the event before in all [..] are one RUN, as many as there are". */
     private static void runs() {
         due("runs of each kind", new Run()
             .addTimes(3, Check.TYPED, 5, 0x6162, 2)
@@ -177,6 +179,7 @@ public final class PackTest {
             0x0B, 6, 0x15);
     }
 
+    /** "any other one is an entry [..]; TYPED with k". */
     private static void typedAgain() {
         due("TYPED with k", new Run()
             .add(Check.TYPED, 1, 0x6162, 2)

@@ -83,6 +83,7 @@ public final class PokeTest {
         refused(IndexOutOfBoundsException.class, Run.full().pack(), LONGEST_PACKED + 1, 1);
     }
 
+    /** "IllegalArgumentException when b [..]; else IndexOutOfBoundsException when i". */
     private static void valuesAreAskedFirst() {
         for (int b : new int[] {-1, 256}) {
             for (int i : new int[] {-1, 4, 5000, 5001, Integer.MIN_VALUE, Integer.MAX_VALUE}) {

@@ -21,6 +21,7 @@ public final class ReadTest {
         check.same("read()", Run.written(bytes).answer(EventLog::read), answer);
     }
 
+    /** "Reads the log". */
     private static void eachKind() {
         EventLog log = Check.withLog(6,
             0xF0, 1,
@@ -173,6 +174,7 @@ public final class ReadTest {
             Run.some().read().answer(log -> log.add(Check.SWITCH, 1, 3, 0)), 3);
     }
 
+    /** The events are what changes, and nothing else. */
     private static void logStays() {
         check.same("the log behind read()", Run.some().read().bytes(), Check.row(2, 0x18, 0x28));
         int[] longForm = {3, 0x10, 0, 0x10, 0, 0x05, 1};

@@ -85,17 +85,22 @@ final class Run {
         return then(EventLog::read);
     }
 
-    /** A run of its own: these calls and one more, whether that one throws or not. */
-    Run tried(Consumer<EventLog> call) {
-        Run run = new Run();
-        run.calls.addAll(calls);
-        return run.then(log -> {
+    /** One more call, whether it throws or not. */
+    Run thenTried(Consumer<EventLog> call) {
+        return then(log -> {
             try {
                 call.accept(log);
             } catch (RuntimeException e) {
                 // Who tries a call asks for the state behind it, not for its answer.
             }
         });
+    }
+
+    /** A run of its own: these calls and one more, whether that one throws or not. */
+    Run tried(Consumer<EventLog> call) {
+        Run run = new Run();
+        run.calls.addAll(calls);
+        return run.thenTried(call);
     }
 
     EventLog made() {
