@@ -22,6 +22,7 @@ public final class AddTest {
         threeHundredByReading();
         wrongOnesAreRefusedWhenFullToo();
         roomAgain();
+        logStays();
         check.end();
     }
 
@@ -66,8 +67,6 @@ public final class AddTest {
         check.sameEvent(log, 2, Check.SIGNAL, 12, 4, 9);
         check.sameEvent(log, 3, Check.CLOCK, 13, 1000, 0);
         check.sameEvent(log, 4, Check.RANDOM, 14, 5, 0);
-        check.same("the log's length", log.count(1), 0);
-        check.same("the log", Run.some().bytes(), Check.row(2, 0x18, 0x28));
     }
 
     /** The kinds are 0 .. 4; 5 is a RUN in the log, and no event. */
@@ -247,5 +246,15 @@ public final class AddTest {
         check.same("add behind drop(299)", run.answer(log -> log.add(Check.CLOCK, 1, 5, 0)), 300);
         check.isRefused("add as the 301st again", IllegalStateException.class,
             run.add(Check.CLOCK, 1, 5, 0), log -> log.add(Check.CLOCK, 1, 5, 0));
+    }
+
+    /** An event comes, and nothing else changes: neither the log nor the events before. */
+    private static void logStays() {
+        for (int kind = 0; kind <= 4; kind++) {
+            check.same("the log of none", new Run().add(kind, 1, 1, 1).bytes(), Check.row());
+            check.same("the log", Run.some().add(kind, 1, 1, 1).bytes(), Check.row(2, 0x18, 0x28));
+            check.same("the events before", Run.some().add(kind, 1, 1, 1).drop(5).events(),
+                Run.some().events());
+        }
     }
 }

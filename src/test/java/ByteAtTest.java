@@ -1,6 +1,5 @@
 /** Promise 9: byteAt. */
 public final class ByteAtTest {
-    private static final int LONGEST_PACKED = 2 + 300 * 15;
     private static final int[] FAR = {4999, 5000, Integer.MIN_VALUE, Integer.MAX_VALUE};
 
     private static final Check check = new Check();
@@ -56,8 +55,8 @@ public final class ByteAtTest {
         Run run = Run.full().pack();
         due(run, 0, 0xAC);
         due(run, 1, 2);
-        due(run, LONGEST_PACKED - 1, 299 % 256);
-        refused(run, -1, LONGEST_PACKED);
+        due(run, Check.LONGEST_PACKED - 1, 299 % 256);
+        refused(run, -1, Check.LONGEST_PACKED);
         refused(run, FAR);
     }
 

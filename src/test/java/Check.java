@@ -10,6 +10,8 @@ final class Check {
     static final int RANDOM = 4;
     static final long FARTHEST = 1L << 40;
     static final int MOST_EVENTS = 300;
+    /** How many bytes 300 events take at the most; Run.full() has them. */
+    static final int LONGEST_PACKED = 2 + 300 * 15;
 
     private int checks;
     private int wrong;

@@ -2,7 +2,6 @@ import java.util.Arrays;
 
 /** Promise 8: cut. */
 public final class CutTest {
-    private static final int LONGEST_PACKED = 2 + 300 * 15;
     private static final int[] FAR = {5000, 5001, Integer.MIN_VALUE, Integer.MAX_VALUE};
 
     private static final Check check = new Check();
@@ -48,11 +47,11 @@ public final class CutTest {
 
     private static void ofTheLongestPacked() {
         Run run = Run.full().pack();
-        check.same("cut to all", run.answer(log -> log.cut(LONGEST_PACKED)), 0);
-        check.leavesAll("cut to all", run, log -> log.cut(LONGEST_PACKED));
-        check.same("cut to all but one", run.answer(log -> log.cut(LONGEST_PACKED - 1)), 1);
-        check.same("cut(0)", run.answer(log -> log.cut(0)), LONGEST_PACKED);
-        refused(run, -1, LONGEST_PACKED + 1);
+        check.same("cut to all", run.answer(log -> log.cut(Check.LONGEST_PACKED)), 0);
+        check.leavesAll("cut to all", run, log -> log.cut(Check.LONGEST_PACKED));
+        check.same("cut to all but one", run.answer(log -> log.cut(Check.LONGEST_PACKED - 1)), 1);
+        check.same("cut(0)", run.answer(log -> log.cut(0)), Check.LONGEST_PACKED);
+        refused(run, -1, Check.LONGEST_PACKED + 1);
         refused(run, FAR);
     }
 

@@ -110,7 +110,7 @@ public final class FaultTest {
 
     private static void endsOfTheLongestLog() {
         Run run = Run.full().pack();
-        int length = 2 + 300 * 15;
+        int length = Check.LONGEST_PACKED;
         check.same("read() of the longest", run.answer(EventLog::read), 300);
         for (int n = length - 1; n >= 0; n -= n > length - 20 ? 1 : 449) {
             int shorter = n;
@@ -279,7 +279,7 @@ public final class FaultTest {
     }
 
     private static void bytesBehindTheLongestLog() {
-        int length = 2 + 300 * 15;
+        int length = Check.LONGEST_PACKED;
         Run run = Run.full().pack().poke(length, 0);
         check.same("read() of the longest and a byte", run.answer(EventLog::read),
             -1 - (7 + 8 * length));

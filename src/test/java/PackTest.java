@@ -26,6 +26,7 @@ public final class PackTest {
         clockAgain();
         clockFarBack();
         logIsReplaced();
+        packedAgain();
         eventsStay();
         shortestOfAll();
         longestOfAll();
@@ -333,6 +334,21 @@ public final class PackTest {
         due("over a shorter log", run.add(Check.SWITCH, 1, 3, 0), 2, 0x28, 0x30, 1);
         due("the same again", run, 2, 0x28, 0x30, 1);
         due("over the longest log", Run.full().pack().drop(0).add(Check.SWITCH, 0, 2, 0), 1, 0x28);
+    }
+
+    /** An entry means events before it, never those of a packing before. */
+    private static void packedAgain() {
+        Run run = new Run()
+            .add(Check.TYPED, 1, 0x4142, 2)
+            .add(Check.CLOCK, 2, 9, 0)
+            .add(Check.TYPED, 3, 0x4142, 2)
+            .add(Check.CLOCK, 4, 9, 0);
+        int[] once = {4, 0x21, 1, 0x41, 0x42, 0x03, 2, 9, 0x01, 3, 1, 0x13, 4};
+        due("packed once", run, once);
+        due("packed twice", run, once);
+        due("packed behind size()", run.tried(EventLog::size), once);
+        due("the last two alone", run.drop(0).add(Check.TYPED, 3, 0x4142, 2)
+            .add(Check.CLOCK, 4, 9, 0), 2, 0x21, 3, 0x41, 0x42, 0x03, 4, 9);
     }
 
     private static void eventsStay() {

@@ -2,8 +2,6 @@ import java.util.Arrays;
 
 /** Promise 7: poke. */
 public final class PokeTest {
-    private static final int LONGEST_PACKED = 2 + 300 * 15;
-
     private static final Check check = new Check();
 
     public static void main(String[] args) {
@@ -73,14 +71,15 @@ public final class PokeTest {
     }
 
     private static void placesOfTheLongestPackedLog() {
+        int length = Check.LONGEST_PACKED;
         int[] due = Run.full().pack().bytes();
-        due[LONGEST_PACKED - 1] = 99;
-        check.same("the last byte", Run.full().pack().poke(LONGEST_PACKED - 1, 99).bytes(), due);
-        int[] longer = Arrays.copyOf(due, LONGEST_PACKED + 1);
-        longer[LONGEST_PACKED] = 98;
-        check.same("one more", Run.full().pack().poke(LONGEST_PACKED - 1, 99)
-            .poke(LONGEST_PACKED, 98).bytes(), longer);
-        refused(IndexOutOfBoundsException.class, Run.full().pack(), LONGEST_PACKED + 1, 1);
+        due[length - 1] = 99;
+        check.same("the last byte", Run.full().pack().poke(length - 1, 99).bytes(), due);
+        int[] longer = Arrays.copyOf(due, length + 1);
+        longer[length] = 98;
+        check.same("one more", Run.full().pack().poke(length - 1, 99).poke(length, 98).bytes(),
+            longer);
+        refused(IndexOutOfBoundsException.class, Run.full().pack(), length + 1, 1);
     }
 
     /** "IllegalArgumentException when b [..]; else IndexOutOfBoundsException when i". */
@@ -97,8 +96,8 @@ public final class PokeTest {
     }
 
     /**
-     * "IllegalStateException when it has 5000 and one more is wanted." Takes more calls than are
-     * promised: no fewer can fill the log.
+     * "IllegalStateException when it has 5000 and one more is wanted." The answers of these calls are
+     * free, since no 512 calls can fill the log; without them the sentence would go untested.
      */
     private static void fullLog() {
         EventLog log = new EventLog();

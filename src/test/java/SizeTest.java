@@ -9,7 +9,7 @@ public final class SizeTest {
         size("one event more far", new Run().add(Check.SWITCH, 1, 1, 0), 3);
         size("some events", Run.some(), 1 + 2 + 3 + 3 + 3 + 6);
         size("300 alike", new Run().addTimes(300, Check.SWITCH, 0, 1, 0), 6);
-        size("300 of the longest", Run.full(), 2 + 300 * 15);
+        size("300 of the longest", Run.full(), Check.LONGEST_PACKED);
         runBounds();
         whatPackGives();
         packedAndSpoiled();
