@@ -96,8 +96,8 @@ public final class PokeTest {
     }
 
     /**
-     * "IllegalStateException when it has 5000 and one more is wanted." The answers of these calls are
-     * free, since no 512 calls can fill the log; without them the sentence would go untested.
+     * "IllegalStateException when it has 5000 and one more is wanted." What is asked here is free,
+     * since no 512 calls can fill the log; without it the sentence would go untested.
      */
     private static void fullLog() {
         EventLog log = new EventLog();
